@@ -192,6 +192,7 @@ public final class PoleBehind {
         if (water.isNone()) {
             return STATE;
         }
+        sureTable.fill(water);
         int turns = sureTable.surestTurns(water, n);
         if (turns == 0) {
             return NONE;
@@ -203,6 +204,7 @@ public final class PoleBehind {
         if (n < 1 || n > MOST_SURE || !isUpperOrLower(which) || water.isNone()) {
             return LOST;
         }
+        sureTable.fill(water);
         int turns = sureTable.surestTurns(water, n);
         if (turns == 0) {
             return inLeastTerms(0L, 1L, which);
@@ -654,7 +656,7 @@ public final class PoleBehind {
         }
 
         int holdsIf(int c, int kind, int mud) {
-            if (isDeep(c)) {
+            if (!has(c) || deepRow[c]) {
                 return 0;
             }
             switch (kind) {
@@ -704,8 +706,8 @@ public final class PoleBehind {
         }
 
         private boolean hasBridgeWithin(int first, int last) {
-            for (int c = first; c <= last; c++) {
-                if (isBridged(c)) {
+            for (int c = Math.max(first, 0); c <= last && c < count; c++) {
+                if (bridgeRow[c]) {
                     return true;
                 }
             }
@@ -762,8 +764,8 @@ public final class PoleBehind {
                     return k;
                 }
             }
-            boolean behindCell = stage == BEHIND_CELL || stage == BEHIND_BRIDGE;
-            return behindCell && river.count >= FEWEST_CELLS ? NONE : n;
+            boolean isBehindCell = stage == BEHIND_CELL || stage == BEHIND_BRIDGE;
+            return isBehindCell && river.count >= FEWEST_CELLS ? NONE : n;
         }
 
         private boolean goesOn(int code, River river) {
@@ -772,18 +774,32 @@ public final class PoleBehind {
                     stage = AT_PACE;
                     return code == 'p';
                 case AT_PACE:
-                    river.paceAtFirst = code - '0';
-                    stage = AT_LETTER;
-                    return code >= '0' && code <= '0' + MOST_PACE;
+                    return goesOnByPace(code - '0', river);
                 case AT_MUD:
-                    river.setMud(river.count - 1, code - '0');
-                    stage = BEHIND_CELL;
-                    return code >= '0' && code <= '0' + MOST_MUD;
+                    return goesOnByMud(code - '0', river);
                 case BEHIND_CELL:
                     return code == '^' ? goesOnByBridge(river) : goesOnByLetter(code, river);
                 default:
                     return goesOnByLetter(code, river);
             }
+        }
+
+        private boolean goesOnByPace(int digit, River river) {
+            if (digit < 0 || digit > MOST_PACE) {
+                return false;
+            }
+            river.paceAtFirst = digit;
+            stage = AT_LETTER;
+            return true;
+        }
+
+        private boolean goesOnByMud(int digit, River river) {
+            if (digit < 0 || digit > MOST_MUD) {
+                return false;
+            }
+            river.setMud(river.count - 1, digit);
+            stage = BEHIND_CELL;
+            return true;
         }
 
         private boolean goesOnByBridge(River river) {
@@ -793,27 +809,22 @@ public final class PoleBehind {
         }
 
         private boolean goesOnByLetter(int code, River river) {
+            switch (code) {
+                case 'g': return goesOnByCell(GRAVEL, false, river);
+                case 'm': return goesOnByCell(MUDDY, false, river);
+                case 'c': return goesOnByCell(CLAY, false, river);
+                case 'd': return goesOnByCell(GRAVEL, true, river);
+                default: return false;
+            }
+        }
+
+        private boolean goesOnByCell(int kind, boolean deep, River river) {
             if (river.count >= MOST_CELLS) {
                 return false;
             }
-            stage = AT_MUD;
-            switch (code) {
-                case 'g':
-                    river.add(GRAVEL, false);
-                    return true;
-                case 'm':
-                    river.add(MUDDY, false);
-                    return true;
-                case 'c':
-                    river.add(CLAY, false);
-                    return true;
-                case 'd':
-                    river.add(GRAVEL, true);
-                    stage = BEHIND_CELL;
-                    return true;
-                default:
-                    return false;
-            }
+            river.add(kind, deep);
+            stage = deep ? BEHIND_CELL : AT_MUD;
+            return true;
         }
     }
 
@@ -905,10 +916,23 @@ public final class PoleBehind {
             stands = false;
         }
 
-        int surestTurns(River river, int n) {
-            if (!stands) {
-                fill(river);
+        void fill(River river) {
+            if (stands) {
+                return;
             }
+            Arrays.fill(best, 0L);
+            for (int spot = 0; spot < river.spots() && spot < SPOTS; spot++) {
+                best[spot] = river.isAtTea(spot) ? 1L : 0L;
+            }
+            for (int turns = 1; turns <= MOST_SURE; turns++) {
+                for (int spot = 0; spot < river.spots() && spot < SPOTS; spot++) {
+                    best[turns * SPOTS + spot] = bestByAnyAct(river, spot, turns);
+                }
+            }
+            stands = true;
+        }
+
+        int surestTurns(River river, int n) {
             long most = 0L;
             int turns = 0;
             for (int k = 1; k <= n; k++) {
@@ -938,19 +962,6 @@ public final class PoleBehind {
             int place = turns * SPOTS + spot;
             boolean isThere = turns >= 0 && spot >= 0 && spot < SPOTS && place < best.length;
             return isThere ? best[place] : 0L;
-        }
-
-        private void fill(River river) {
-            Arrays.fill(best, 0L);
-            for (int spot = 0; spot < river.spots() && spot < SPOTS; spot++) {
-                best[spot] = river.isAtTea(spot) ? 1L : 0L;
-            }
-            for (int turns = 1; turns <= MOST_SURE; turns++) {
-                for (int spot = 0; spot < river.spots() && spot < SPOTS; spot++) {
-                    best[turns * SPOTS + spot] = bestByAnyAct(river, spot, turns);
-                }
-            }
-            stands = true;
         }
 
         private long bestByAnyAct(River river, int spot, int turns) {

@@ -11,6 +11,7 @@ public final class RiverTest {
         riverRefusals(check);
         refusedTextChangesNothing(check);
         takenTextMakesAllAnew(check);
+        manyRiversOfOneObject(check);
         holds(check);
         ofCellRefusals(check);
         pace(check);
@@ -146,6 +147,29 @@ public final class RiverTest {
             for (int what = 0; what < 5; what++) {
                 check.due("ofCell(" + c + ", " + what + ")", x.ofCell(c, what), due[c][what]);
             }
+        }
+    }
+
+    /** That nothing of an earlier river or of a refused text is left, however many there were. */
+    private static void manyRiversOfOneObject(Check check) {
+        PoleBehind x = new PoleBehind();
+        for (int round = 0; round < 4; round++) {
+            check.due("river", Told.river(x, "p3c9^c9^m9^c9^"), 4);
+            check.due("many(2)", x.many(2), 4);
+            check.due("river that ends too soon", Told.river(x, "p2c8^d^m8^c8^c8^c"), -117);
+            check.due("river, a smaller one", Told.river(x, "p0ddd"), 3);
+            check.due("many(0)", x.many(0), 3);
+            check.due("many(1)", x.many(1), 0);
+            check.due("many(2)", x.many(2), 0);
+            for (int c = 0; c < 3; c++) {
+                check.due("ofCell(" + c + ", 0)", x.ofCell(c, 0), 0);
+                check.due("ofCell(" + c + ", 1)", x.ofCell(c, 1), 0);
+                check.due("ofCell(" + c + ", 3)", x.ofCell(c, 3), 1);
+            }
+            x.bridge(1, true);
+            check.due("river", Told.river(x, "p1g0g0"), 2);
+            check.due("ofCell(1, 1)", x.ofCell(1, 1), 0);
+            check.due("ofCell(1, 4)", x.ofCell(1, 4), 0);
         }
     }
 

@@ -38,6 +38,11 @@ public final class SearchTest {
         row(check, y, 11, TRAIL, TRAIL, PADDLE, PADDLE, PADDLE, PADDLE, PADDLE, PADDLE, PADDLE, PADDLE, PADDLE);
         share(check, y, 11, 1, 1);
         row(check, y, 12, TRAIL, TRAIL, PADDLE, PADDLE, PADDLE, PADDLE, PADDLE, PADDLE, PADDLE, PADDLE, PADDLE);
+        PoleBehind z = Told.objectWith("p0" + "d".repeat(13));
+        row(check, z, 11);
+        row(check, z, 12, PADDLE, PADDLE, PADDLE, PADDLE, PADDLE, PADDLE, PADDLE, PADDLE, PADDLE, PADDLE, PADDLE, PADDLE);
+        share(check, z, 12, 1, 1);
+        row(check, Told.objectWith("p0" + "d".repeat(14)), 12);
         // A deep cell ahead lets no twist be: 2 cells by a trail, and the pole that finds ground there.
         row(check, Told.objectWith("p3dg1g9g1g1g1"), 2, TRAIL, PUSH);
         share(check, Told.objectWith("p3dg1g9g1g1g1"), 2, 1, 10);

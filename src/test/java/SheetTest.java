@@ -187,7 +187,7 @@ public final class SheetTest {
     private static void faultOfTheLatestCall(Check check) {
         PoleBehind x = Told.objectWith("p1g1g1g1");
         Told.acts(x, 1, 1);
-        for (int number = 0; number <= 16; number++) {
+        for (int number = 0; number <= 18; number++) {
             x.sheet(1, 0, -1);
             check.due("fault(), again and again", x.fault() * 10 + x.fault(), 44);
             callOf(x, number);
@@ -213,6 +213,8 @@ public final class SheetTest {
             case 13: x.odds(3, 2, 0, 1, 0); break;
             case 14: x.put(3, 0, 1); break;
             case 15: x.copy(3, 0, 3, 0, 1); break;
+            case 16: x.sheet(2, 0, 1); break;
+            case 17: x.cell(3, 0, 2); break;
             default: x.as(0, 0); break;
         }
     }
