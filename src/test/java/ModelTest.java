@@ -45,9 +45,12 @@ public final class ModelTest {
         }
     }
 
-    /** Counts a call and compares it, with the fault behind it now and then. */
+    /** Counts a call and compares it; what the calls beyond the last that is promised answer is free. */
     private void due(String call, long got, long want) {
         calls++;
+        if (calls > CALLS) {
+            return;
+        }
         lately.add(call + " = " + want);
         if (got != want && !failed) {
             failed = true;
