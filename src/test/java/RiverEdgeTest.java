@@ -14,6 +14,7 @@ public final class RiverEdgeTest {
         riverFarOutside(check);
         riverMakesAllAnew(check);
         riverTakesPlaceOfAFullOne(check);
+        riverBehindRivers(check);
         holdsNineAtMost(check);
         deepCells(check);
         ofCell(check);
@@ -236,6 +237,30 @@ public final class RiverEdgeTest {
             check.due("reading(1, 0)", x.reading(1, 0), k);
         }
         check.due("fault()", x.fault(), 0);
+    }
+
+    /** That nothing is left of the river ahead, of the one ahead of that, or of a text that was not taken. */
+    private static void riverBehindRivers(Check check) {
+        PoleBehind x = new PoleBehind();
+        for (int round = 0; round < 3; round++) {
+            check.due("a river of clay", Told.river(x, "p3c9^c9^c9^"), 3);
+            check.due("the surest on it", x.surest(12, -1), 2);
+            check.due("its likelihood", x.sure(12, 1), 1);
+            check.due("a text that ends too soon", Told.river(x, "p3m8^m8^m8^m"), -112);
+            check.due("a river of deep ones", Told.river(x, "p3ddd"), 3);
+            for (int c = 0; c < 3; c++) {
+                int[] due = {0, 0, 0, 1, 0};
+                for (int what = 0; what < 5; what++) {
+                    check.due("ofCell(" + c + ", " + what + ")", x.ofCell(c, what), due[what]);
+                }
+            }
+            check.due("many(2)", x.many(2), 0);
+            check.due("the surest on it", x.surest(12, 0), Told.TRAIL);
+            check.due("turns of it", x.surest(12, -1), 1);
+            check.due("a river of no mud", Told.river(x, "p3g0g0g0"), 3);
+            check.due("the surest on it", x.surest(12, 0), Told.PUSH);
+            check.due("ofCell(2, 2)", x.ofCell(2, 2), 0);
+        }
     }
 
     private static void holdsNineAtMost(Check check) {

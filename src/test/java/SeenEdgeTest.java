@@ -130,6 +130,12 @@ public final class SeenEdgeTest {
         check.due("ways(5, -1), of all acts", all.ways(5, -1), 1024);
         check.due("ways(5, 4), of all acts", all.ways(5, 4), PUSH);
         check.due("ways(5, 5), of all acts", all.ways(5, 5), NONE);
+        check.due("ways(6, 5), to the tea by the last act", all.ways(6, 5), PUSH);
+        check.due("ways(7, 5), not yet to the tea", all.ways(7, 5), TRAIL);
+        PoleBehind few = Told.objectWith("p0g0g0g0g0");
+        check.due("ways(2, 0), three cells off", few.ways(2, 0), PUSH);
+        check.due("ways(2, 1), three cells off", few.ways(2, 1), PUSH);
+        check.due("ways(3, 1), not yet to the tea", few.ways(3, 1), TRAIL);
     }
 
     /** All READINGS of TURNS 1 to n are so (others do not matter): of turn n it does, of turn n + 1 not. */
@@ -145,7 +151,9 @@ public final class SeenEdgeTest {
             x.reading(t, 15);
             for (int n = 0; n <= 7; n++) {
                 check.due("never there behind turn " + t + ": ways(" + n + ", -1)", x.ways(n, -1), t <= n ? 0 : 1 << n);
-                check.due("never there behind turn " + t + ": ways(" + n + ", 0)", x.ways(n, 0), t <= n || n == 0 ? NONE : TRAIL);
+                for (int q = 0; q <= 6; q++) {
+                    check.due("never there behind turn " + t + ": ways(" + n + ", " + q + ")", x.ways(n, q), t <= n || q >= n ? NONE : TRAIL);
+                }
             }
         }
         for (int c = 0; c <= 7; c++) {
