@@ -22,6 +22,7 @@ public final class FaceTest {
         + "int put(int,int,int);long cell(int,int,int);int copy(int,int,int,int,int);int tell(int);int sound(int);"
         + "int as(int,int);int trace();int fault();int many(int)";
     private static final Set<String> CONSTANTS = Set.of("UNKNOWN", "OUTSIDE", "STATE", "FULL", "NONE", "LOST");
+    private static final Set<String> LIBRARY = Set.of("Math.min", "Math.max", "Integer.bitCount", "System.arraycopy", "Arrays.fill");
     private static final int MOST_LINES = 60, MOST_FIELDS = 20, MOST_PARAMETERS = 7, MOST_CLASSES = 12;
 
     public static void main(String[] args) throws IOException {
@@ -103,6 +104,10 @@ public final class FaceTest {
         Matcher imports = Pattern.compile("import ([^;]*);").matcher(code);
         while (imports.find()) {
             check.holds("import of " + imports.group(1), imports.group(1).equals("java.util.Arrays"));
+        }
+        Matcher library = Pattern.compile("\\b((?:Math|Arrays|System|Integer|Long|Character|Boolean|String)\\.\\w+)\\(").matcher(code);
+        while (library.find()) {
+            check.holds("the library has " + library.group(1), LIBRARY.contains(library.group(1)));
         }
         check.holds("signs from 1 to 127", file.chars().allMatch(sign -> sign >= 1 && sign <= 127));
         methodsAreShort(check, file.split("\n"));
